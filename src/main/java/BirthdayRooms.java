@@ -668,7 +668,7 @@ public final class BirthdayRooms {
         }
 
         int roomOf(int i) {
-            return at(rooms, i);
+            return i >= 0 && i < rooms.length ? rooms[i] : 0;
         }
 
         int ownerOf(int r, int cousins) {
