@@ -1,3 +1,5 @@
+import com.sun.management.ThreadMXBean;
+import java.lang.management.ManagementFactory;
 import java.lang.reflect.Constructor;
 import java.lang.reflect.Field;
 import java.lang.reflect.Method;
@@ -31,6 +33,7 @@ public final class FaceTests {
         constructorsAndFields();
         nestedClasses();
         source();
+        room();
         System.out.println(wrong == 0 ? "the face is as due" : wrong + " things are not as due");
         if (wrong != 0) {
             System.exit(1);
@@ -92,6 +95,57 @@ public final class FaceTests {
             for (Method method : nested.getDeclaredMethods()) {
                 due(method + " bears a public name", face.contains(method.getName()), false);
             }
+        }
+    }
+
+    /** All calls of a run live in one room: rows are made with the house, and a call makes nothing. */
+    private static void room() {
+        ThreadMXBean threads = (ThreadMXBean) ManagementFactory.getThreadMXBean();
+        if (!threads.isThreadAllocatedMemorySupported() || !threads.isThreadAllocatedMemoryEnabled()) {
+            return;
+        }
+        everyCall(new BirthdayRooms());
+        long before = threads.getThreadAllocatedBytes(Thread.currentThread().getId());
+        BirthdayRooms house = new BirthdayRooms();
+        long made = threads.getThreadAllocatedBytes(Thread.currentThread().getId());
+        everyCall(house);
+        long used = threads.getThreadAllocatedBytes(Thread.currentThread().getId());
+        due("a new house is below 20,000 bytes", made - before < 20000, true);
+        due("all calls make less than 1,000 bytes together", used - made < 1000, true);
+    }
+
+    private static void everyCall(BirthdayRooms x) {
+        for (int k = 0; k < 14; k++) {
+            x.write('c');
+            x.fault();
+            x.lay();
+            x.wipe();
+            x.cousin(k % 6, k % 5);
+            x.room(k % 6, k % 3);
+            x.pass(1 + k);
+            x.swap(k % 6, 5 - k % 6);
+            x.alter(k % 6, k);
+            x.undo();
+            x.has(k % 6, 120);
+            x.whose(k % 6, 120);
+            x.sun(k % 6, 120);
+            x.cold(120);
+            x.want(120);
+            x.swaps(k % 6, 60, k % 3);
+            x.warm(60, k % 2);
+            x.canHave(k % 6, 120);
+            x.round();
+            x.way(k % 6, 5 - k % 6, k % 2);
+            x.seen(k % 6, k % 6, 120 - k);
+            x.register(k % 6, k % 2);
+            x.forget();
+            x.foundling(k % 6, k % 5, 120, k % 2);
+            x.loses(k % 2);
+            x.next(k % 2);
+            x.year(k, 120, k % 2);
+            x.keep();
+            x.back();
+            x.count(k % 6);
         }
     }
 
