@@ -150,8 +150,8 @@ public final class FaceTests {
     }
 
     private static void source() throws Exception {
-        String source = Files.readString(Path.of(System.getProperty("birthdayrooms.source",
-            "src/main/java/BirthdayRooms.java")));
+        String source = Files.readString(Path.of(System.getProperty("birthdayrooms.root", "."),
+            "src/main/java/BirthdayRooms.java"));
         for (int k = 0; k < source.length(); k++) {
             if (source.charAt(k) > 126) {
                 due("a sign of the source", (int) source.charAt(k), "1 to 126");
